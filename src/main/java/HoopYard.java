@@ -823,7 +823,8 @@ public final class HoopYard {
     void becomeLike(Stock model) {
       staveCount = model.staveCount;
       for (int i = 0; i < staveCount; i++) {
-        staves[i] = model.staves[i].twin();
+        Stave stave = model.staveAt(i);
+        staves[i] = stave == null ? null : stave.twin();
       }
       hoopCount = model.hoopCount;
       for (int i = 0; i < hoopCount; i++) {
@@ -848,8 +849,9 @@ public final class HoopYard {
     void addUp(Stock stock) {
       sets = 1 << stock.staveCount;
       for (int i = 0; i < stock.staveCount; i++) {
-        int many = stock.staves[i].counts();
-        int price = stock.staves[i].price();
+        Stave stave = stock.staveAt(i);
+        int many = stave == null ? 0 : stave.counts();
+        int price = stave == null ? 0 : stave.price();
         int bit = 1 << i;
         for (int set = 0; set < bit; set++) {
           counts[bit + set] = counts[set] + many;
@@ -927,7 +929,7 @@ public final class HoopYard {
       return size > 0;
     }
 
-    /** Whatever is least is tried from the least place on: so the digits are the least, too. */
+    /** What is least is tried from the least place on, so the digits are the least of several. */
     void layLeast(Stock stock, int set, int p) {
       choose(stock, set, p);
       weigh(false);
@@ -997,7 +999,12 @@ public final class HoopYard {
     }
 
     private static int gapOf(Stock stock, int one, int other) {
-      return Math.abs(stock.staves[one].edge() + stock.staves[other].edge() - stock.rules[NEED]);
+      return Math.abs(edgeOf(stock, one) + edgeOf(stock, other) - stock.rules[NEED]);
+    }
+
+    private static int edgeOf(Stock stock, int i) {
+      Stave stave = stock.staveAt(i);
+      return stave == null ? 0 : stave.edge();
     }
 
     private void choose(Stock stock, int set, int p) {
@@ -1098,14 +1105,19 @@ public final class HoopYard {
     void drive(Stock stock) {
       Arrays.fill(pressing, 0);
       for (int i = 0; i < stock.hoopCount; i++) {
-        Hoop hoop = stock.hoops[i];
-        depths[i] = restDepth(stock, hoop.size, hoop.side, i);
-        if (depths[i] != NOT) {
-          int presses = Hoop.presses(hoop.kind, gripAt(stock, depths[i], hoop.size));
-          for (int height = 0; height < HEIGHTS; height++) {
-            pressing[height] += pressFrom(heightOf(depths[i], hoop.side), presses, height);
-          }
+        Hoop hoop = stock.hoopAt(i);
+        depths[i] = hoop == null ? NOT : restDepth(stock, hoop.size, hoop.side, i);
+        if (hoop != null && depths[i] != NOT) {
+          addPress(hoop, depths[i], gripAt(stock, depths[i], hoop.size));
         }
+      }
+    }
+
+    private void addPress(Hoop hoop, int depth, int grip) {
+      int rest = heightOf(depth, hoop.side);
+      int presses = Hoop.presses(hoop.kind, grip);
+      for (int height = 0; height < HEIGHTS; height++) {
+        pressing[height] += pressFrom(rest, presses, height);
       }
     }
 
@@ -1113,7 +1125,8 @@ public final class HoopYard {
     int restDepth(Stock stock, int size, int side, int number) {
       int farthest = MIDDLE + 1;
       for (int i = 0; i < number; i++) {
-        if (stock.hoops[i].side == side && depths[i] != NOT) {
+        Hoop ahead = stock.hoopAt(i);
+        if (ahead != null && ahead.side == side && depths[i] != NOT) {
           farthest = Math.min(farthest, depths[i]);
         }
       }
@@ -1178,6 +1191,7 @@ public final class HoopYard {
     final int[] widths = new int[MOST_BOARDS];
     final int[] row = new int[MOST_BOARDS];
     final int[] ends = new int[1 << MOST_BOARDS];
+    /** By the set laid: what comes on top of it, counted as the question wants it (USED, or rows). */
     final int[] rest = new int[1 << MOST_BOARDS];
     int boards;
     int radius;
@@ -1187,7 +1201,8 @@ public final class HoopYard {
       boards = stock.boardCount;
       ends[0] = 0;
       for (int i = 0; i < boards; i++) {
-        widths[i] = stock.boards[i].width;
+        Board board = stock.boardAt(i);
+        widths[i] = board == null ? 0 : board.width;
         int bit = 1 << i;
         for (int set = 0; set < bit; set++) {
           ends[bit + set] = ends[set] + widths[i];
@@ -1208,7 +1223,7 @@ public final class HoopYard {
       return width * 2 * (root * root < square ? root + 1 : root);
     }
 
-    /** The least USED of all heads; NOT if there is none. What is left to spend is kept for leastDigits. */
+    /** The least USED of all heads; NOT if there is none. */
     int leastSpent() {
       for (int laid = (1 << boards) - 1; laid >= 0; laid--) {
         rest[laid] = isDone(ends[laid]) ? 0 : leastOnward(laid);
@@ -1232,7 +1247,7 @@ public final class HoopYard {
       return after == NOT ? NOT : spentOn(next, ends[laid]) + after;
     }
 
-    /** Behind leastSpent(): whatever is least is tried from the first board on, so it is the first of several. */
+    /** Only behind leastSpent(). What is least is tried from the first board on, so it is the first of several. */
     int leastDigits() {
       int laid = 0;
       int digits = 0;
