@@ -61,9 +61,6 @@ public final class HoopYard {
     if (!Stave.canBe(kind, width, thick, bevel)) {
       return BAD;
     }
-    if (stock.staveCount >= MOST_STAVES) {
-      return FULL;
-    }
     return stock.addStave(new Stave(kind, width, thick, bevel));
   }
 
@@ -71,18 +68,12 @@ public final class HoopYard {
     if (!Hoop.canBe(kind, size, side)) {
       return BAD;
     }
-    if (stock.hoopCount >= MOST_HOOPS) {
-      return FULL;
-    }
     return stock.addHoop(new Hoop(kind, size, side));
   }
 
   public int board(int width) {
     if (!Board.canBe(width)) {
       return BAD;
-    }
-    if (stock.boardCount >= MOST_BOARDS) {
-      return FULL;
     }
     return stock.addBoard(new Board(width));
   }
@@ -302,9 +293,6 @@ public final class HoopYard {
     if (!isIn(letter, 0, 127)) {
       return BAD;
     }
-    if (tape.size >= MOST_TAPE) {
-      return FULL;
-    }
     return tape.append((byte) letter);
   }
 
@@ -402,15 +390,9 @@ public final class HoopYard {
   }
 
   public int fill(int peg, int set, int p) {
-    if (!isPeg(peg)) {
-      return NONE;
-    }
-    if (!isRingSet(set) || !isPress(p)) {
-      return BAD;
-    }
     Tray tray = trayOn(peg);
-    if (tray == null) {
-      return lackOfTray(peg);
+    if (tray == null || !isRingSet(set) || !isPress(p)) {
+      return lackForRing(peg, set, p);
     }
     bench.layLeast(stock, set, p);
     int laid = Math.min(tray.items.length, bench.size);
@@ -421,15 +403,9 @@ public final class HoopYard {
   }
 
   public int judge(int peg, int set, int p) {
-    if (!isPeg(peg)) {
-      return NONE;
-    }
-    if (!isRingSet(set) || !isPress(p)) {
-      return BAD;
-    }
     Tray tray = trayOn(peg);
-    if (tray == null) {
-      return lackOfTray(peg);
+    if (tray == null || !isRingSet(set) || !isPress(p)) {
+      return lackForRing(peg, set, p);
     }
     bench.layLeast(stock, set, p);
     for (int i = 0; i < tray.items.length; i++) {
@@ -608,6 +584,12 @@ public final class HoopYard {
       return NONE;
     }
     return pegs[peg] == null ? EMPTY : OTHER;
+  }
+
+  /** What to answer when a peg, a set or a press keeps a ring from being laid on a tray. */
+  private int lackForRing(int peg, int set, int p) {
+    boolean isTold = isRingSet(set) && isPress(p);
+    return isPeg(peg) && !isTold ? BAD : lackOfTray(peg);
   }
 
   /** What can hang on a peg. */
@@ -1164,7 +1146,8 @@ public final class HoopYard {
       int best = NOT;
       int fewest = Integer.bitCount(wetBelow(tight));
       for (int size = 1; size <= most; size++) {
-        int wet = wetWithOneMore(stock, size, tight);
+        int rest = restDepth(stock, size, 0, stock.hoopCount);
+        int wet = rest == NOT ? fewest : howManyWetWith(rest, gripAt(stock, rest, size), tight);
         if (wet < fewest) {
           fewest = wet;
           best = size;
@@ -1173,12 +1156,10 @@ public final class HoopYard {
       return best;
     }
 
-    private int wetWithOneMore(Stock stock, int size, int tight) {
-      int rest = restDepth(stock, size, 0, stock.hoopCount);
-      int grip = rest == NOT ? 0 : gripAt(stock, rest, size);
+    private int howManyWetWith(int rest, int presses, int tight) {
       int wet = 0;
       for (int height = 0; height < HEIGHTS; height++) {
-        if (capped(pressing[height] + pressFrom(rest, grip, height)) < tight) {
+        if (capped(pressing[height] + pressFrom(rest, presses, height)) < tight) {
           wet++;
         }
       }
@@ -1316,10 +1297,11 @@ public final class HoopYard {
     int cursor;
 
     int append(byte letter) {
-      if (size < MOST_TAPE) {
-        bytes[size] = letter;
-        size++;
+      if (size >= MOST_TAPE) {
+        return FULL;
       }
+      bytes[size] = letter;
+      size++;
       return size;
     }
 

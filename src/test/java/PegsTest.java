@@ -54,6 +54,9 @@ public final class PegsTest {
     due.is("no stave", y.hang(0, 0, -1), HoopYard.NONE);
     due.is("no hoop", y.hang(0, 1, 4), HoopYard.NONE);
     due.is("no board", y.hang(0, 2, 1), HoopYard.NONE);
+    due.is("no board", y.hang(0, 2, -1), HoopYard.NONE);
+    due.is("no board", y.hang(0, 2, 7), HoopYard.NONE);
+    due.is("no hoop", y.hang(0, 1, -1), HoopYard.NONE);
     due.is("still there", y.held(0), 1);
     due.is("another thing in its place", y.hang(0, 1, 0), 1);
     due.is("held(0)", y.held(0), 2);
@@ -74,6 +77,9 @@ public final class PegsTest {
     y.takes(0);
     y.takes(1);
     y.takes(2);
+    due.is("hang a stave that is none", y.hang(5, 0, 4), HoopYard.NONE);
+    due.is("hang a hoop that is none", y.hang(5, 1, 3), HoopYard.NONE);
+    due.is("hang a board that is none", y.hang(5, 2, 0), HoopYard.NONE);
     due.is("a stave that is none of the yard", y.as(0, 0, 4), 6);
     due.is("a hoop that is none", y.as(2, 1, 3), 103);
     due.is("a board that is none", y.as(3, 2, 0), 77);
@@ -218,6 +224,10 @@ public final class PegsTest {
     due.is("of two", y.fill(2, 3, 0), 2);
     due.are("two joints", items(y, 2, 4), 3, 3, 3, 1);
     due.is("judge of two: beyond", y.judge(2, 3, 0), 2);
+    y.put(2, 2, 0);
+    y.put(2, 3, 1);
+    y.least(15, 0, 0);
+    due.is("judge of two: beyond, though a longer ring went ahead", y.judge(2, 3, 0), 2);
   }
 
   private static void lacksOfFill() {

@@ -143,6 +143,12 @@ public final class StavesTest {
     y.rule(0, 10);
     due.is("2 of 2", y.ofStave(4, 7), 1);
     due.is("3 of 2", y.ofStave(5, 7), HoopYard.NOT);
+    y.rule(0, 44);
+    y.takes(0);
+    y.stave(0, 14, 1, 0);
+    due.is("RADIUS of 44: 4972 over 710", y.ofStave(5, 7), 7);
+    y.rule(0, 333);
+    due.is("RADIUS of 333: 37629 over 710", y.ofStave(3, 7), 36);
     // a BUNG's COUNTS, not its WIDTH, are what D is held against
     y.rule(0, 100);
     y.stave(3, 29, 1, 0);
@@ -171,6 +177,13 @@ public final class StavesTest {
     due.is("the next stave's number", y.stave(2, 30, 1, 0), 1);
     due.is("and its WIDTH", y.ofStave(1, 1), 30);
     due.are("what is left", told(y), 100, 4, 3, 102, 2, 0, 2, 0, 0);
+    due.is("takes(0)", y.takes(0), 1);
+    due.is("the last takes(0)", y.takes(0), 0);
+    due.is("one takes(0) more", y.takes(0), HoopYard.STATE);
+    due.is("takes(2)", y.takes(2), 1);
+    due.is("the last takes(2)", y.takes(2), 0);
+    due.is("one takes(2) more", y.takes(2), HoopYard.STATE);
+    due.are("nothing is left", told(y), 100, 4, 3, 102, 0, 0, 0, 0, 0);
   }
 
   private static void shave() {
@@ -248,6 +261,7 @@ public final class StavesTest {
     due.is("nearest(4): of two the lesser", y.nearest(4), 3);
     due.is("nearest(7)", y.nearest(7), 8);
     due.is("nearest(12): of 11 and 13", y.nearest(12), 11);
+    due.is("nearest(6): 5 is nearer than 8", y.nearest(6), 5);
     due.is("nearest(15)", y.nearest(15), 16);
     due.is("nearest(999)", y.nearest(999), 16);
     due.is("nearest(-1)", y.nearest(-1), HoopYard.BAD);
