@@ -230,6 +230,16 @@ public final class StavesTest {
     due.is("too wide: COUNTS", y.fits(2), HoopYard.NOT);
     due.is("too wide: PRICE", y.fits(3), HoopYard.NOT);
 
+    HoopYard one = new HoopYard();
+    one.rule(0, 10);
+    one.stave(2, 13, 2, 0);
+    due.is("one: how many", one.fits(0), 1);
+    due.is("one: bits", one.fits(1), 1);
+    due.is("one: COUNTS", one.fits(2), 13);
+    due.is("one: PRICE", one.fits(3), 26);
+    one.rule(1, 2);
+    due.is("one: 13 is above 10 .. 12", one.fits(1), HoopYard.NOT);
+
     HoopYard dear = new HoopYard();
     dear.rule(0, 10);
     dear.stave(0, 10, 9, 0);
