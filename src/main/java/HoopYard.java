@@ -1029,12 +1029,13 @@ public final class HoopYard {
       if (left == 0) {
         return costs[last][0];
       }
-      int best = Integer.MAX_VALUE;
+      int best = NOT;
       for (int next = 1; next < size; next++) {
         if (holds(left, next)) {
           int rest = onward[cellOf(without(left, next), next)];
           int cost = costs[last][next];
-          best = Math.min(best, widest ? Math.max(cost, rest) : cost + rest);
+          int whole = widest ? Math.max(cost, rest) : cost + rest;
+          best = best == NOT ? whole : Math.min(best, whole);
         }
       }
       return best;

@@ -18,6 +18,10 @@ public final class BoundsTest {
     for (String boundary : document.unquoted()) {
       due.holds(boundary + " is quoted by a test", false);
     }
+    for (String section : document.untouched()) {
+      due.holds(section + " is quoted by a test", false);
+    }
+    due.is("promises of the document", document.promises(), 37);
     due.end();
   }
 }

@@ -70,6 +70,27 @@ final class Document {
     return left;
   }
 
+  /** The terms and promises of which nobody has quoted a word. */
+  List<String> untouched() {
+    List<String> left = new ArrayList<>();
+    for (String section : texts.keySet()) {
+      boolean[] marks = quoted.get(section);
+      int first = section.startsWith("Promise") ? texts.get(section).indexOf("`: ") : 0;
+      boolean isTouched = false;
+      for (int k = first; k < marks.length; k++) {
+        isTouched |= marks[k];
+      }
+      if (section.matches("(Terms|Promise) \\d+") && !isTouched) {
+        left.add(section);
+      }
+    }
+    return left;
+  }
+
+  int promises() {
+    return (int) texts.keySet().stream().filter(section -> section.startsWith("Promise")).count();
+  }
+
   private static String around(String text, int begin, int end) {
     return text.substring(Math.max(0, begin - 30), Math.min(text.length(), end + 30));
   }
