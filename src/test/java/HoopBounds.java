@@ -235,6 +235,13 @@ final class HoopBounds {
     s.is("driest(3, 600)", NOT);
     s.yard(GAP_ONE, "rule(0, 10); rule(2, 20); hoop(0, 11, 0); hoop(0, 1, 1)");
     s.is("driest(3, 600)", 2);
+    // more HOOPS than STAVES: the last one of SIDE 0 stops it, those of SIDE 1 don't
+    s.yard(GAP_ONE, "rule(0, 10); rule(2, 20); hoop(0, 11, 0); hoop(0, 1, 1); hoop(0, 1, 1)");
+    s.is("driest(3, 600)", 2);
+    s.is("hoop(0, 1, 0)", 3);
+    s.is("driest(3, 600)", NOT);
+    s.does("takes(1); hoop(0, 10, 0)");
+    s.is("driest(3, 600)", 2);
     // a GAP of 12: at 4 the one there presses 4 and SIZE 2 presses 8; with one that presses 3 it is not enough
     s.yard("stave(0, 9, 1, 7); rule(0, 10); rule(2, 20); hoop(0, 6, 1)");
     s.is("wet(1)", 511);

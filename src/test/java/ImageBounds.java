@@ -15,6 +15,7 @@ final class ImageBounds {
 
   void test() {
     keeps();
+    keepsEachSort();
     fullAndEmpty();
     stays();
     image();
@@ -38,6 +39,29 @@ final class ImageBounds {
     s.are("ofHoop(0, #)", 1, 90, 1);
     s.does("hang(0, 2, 0)");
     s.is("as(0, 2, 0)", 40);
+  }
+
+  /** As many of one sort as there can be, none of the others; all are others when the image is laid back. */
+  private void keepsEachSort() {
+    s.says("Terms 5", "AN IMAGE keeps STAVES, HOOPS, BOARDS");
+    String[] more = {"stave(0, #, 1, 0)", "hoop(0, #, 0)", "board(#)"};
+    int[] most = {9, 6, 7};
+    for (int what = 0; what < 3; what++) {
+      s.yard();
+      for (int i = 0; i < most[what]; i++) {
+        s.does(more[what].replace("#", "" + (10 + i)));
+      }
+      s.does("image()" + (";takes(" + what + ")").repeat(most[what]));
+      for (int i = 0; i < most[what]; i++) {
+        s.does(more[what].replace("#", "" + (30 + i)));
+      }
+      s.is("undo()", what == 0 ? 9 : 0);
+      for (int i = 0; i < most[what]; i++) {
+        s.is("hang(0, " + what + ", " + i + ")", 1);
+        s.is("as(0, " + what + ", 0)", 10 + i);
+      }
+      s.is("hang(0, " + what + ", " + most[what] + ")", NONE);
+    }
   }
 
   private void fullAndEmpty() {

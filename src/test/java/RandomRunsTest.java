@@ -256,7 +256,12 @@ public final class RandomRunsTest {
     } else {
       same("undo()", yard.undo(), naive.undo());
     }
-    return 1;
+    int boards = naive.told(6);
+    for (int k = 0; k < boards; k++) {
+      same(told("hang", 5, 2, k), yard.hang(5, 2, k), naive.hang(5, 2, k));
+      same(told("as", 5, 2, 0), yard.as(5, 2, 0), naive.as(5, 2, 0));
+    }
+    return 1 + 2 * boards;
   }
 
   private int pegs() {
