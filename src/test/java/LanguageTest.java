@@ -74,11 +74,29 @@ public final class LanguageTest {
     due.is("methods that call themselves", graph.recursive().size(), 1);
   }
 
+  /** Calls that come back to where they began, over another method and over a class below; a row of nine. */
+  private static void callsAreSeen(Due due, Path file) throws IOException {
+    StringBuilder code = new StringBuilder("import java.util.Map; public final class HoopYard {\n");
+    code.append("void x() { y(); } void y() { x(); } void a8() { }\n");
+    for (int k = 0; k < DEEPEST; k++) {
+      code.append("void a").append(k).append("() { a").append(k + 1).append("(); }\n");
+    }
+    code.append("abstract static class A { abstract void m(); }\n");
+    code.append("static final class B extends A { A a; void m() { new B(); a.m(); } }\n}\n");
+    Files.writeString(file, code);
+    CallGraph graph = new CallGraph();
+    List<String> faults = faults(due, file, graph);
+    due.holds("rule 4 is seen to be broken by an import", faults.size() == 1 && faults.get(0).startsWith("rule 4,"));
+    due.is("methods seen to come back to themselves: " + graph.recursive(), graph.recursive().size(), 4);
+    due.is("calls seen to be nine deep: " + graph.deepest(), graph.deepest().size(), DEEPEST + 1);
+  }
+
   private static void breachesAreSeen(Due due) throws IOException {
     Path folder = Files.createTempDirectory(Files.createDirectories(Path.of("build")), "language");
     Path file = folder.resolve("HoopYard.java");
     Files.writeString(file, "public final class HoopYard {\n" + FINE + "\n}\n");
     due.is("faults of what is as it should be", faults(due, file, new CallGraph()).size(), 0);
+    callsAreSeen(due, file);
     for (String[] breach : BREACHES) {
       Files.writeString(file, "public final class HoopYard {\n" + breach[1] + "\n}\n");
       List<String> faults = faults(due, file, new CallGraph());
